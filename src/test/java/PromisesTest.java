@@ -1,3 +1,4 @@
+import java.lang.reflect.Field;
 import java.util.function.Supplier;
 
 /** Each promise of the document by itself, with answers reckoned by hand. */
@@ -67,6 +68,7 @@ public final class PromisesTest {
         eachSeesWhatIsDrawn();
         promise34DampnessIn();
         promise35DaysUntilEven();
+        promise35AtItsBound();
         promise36MeanDampness();
         promise37Digest();
         promise37DigestOfAll();
@@ -840,6 +842,27 @@ public final class PromisesTest {
         silo.pass(17);
         due("pass(1) of the last uneven day", true, silo.pass(1) > 0);
         due("pass(1) of the first even day", 0, silo.pass(1));
+    }
+
+    /** No dampness up to 40 is known to reach the bound, so that one that cannot be is written into the silo. */
+    private void promise35AtItsBound() {
+        due("daysUntilEven() of 398, 0", 199, overDamp(398).daysUntilEven());
+        due("daysUntilEven() of 400, 0", 200, overDamp(400).daysUntilEven());
+        due("daysUntilEven() of 401, 0", 200, overDamp(401).daysUntilEven());
+        due("daysUntilEven() of 402, 0", -1, overDamp(402).daysUntilEven());
+        due("daysUntilEven() of 4000, 0", -1, overDamp(4000).daysUntilEven());
+    }
+
+    private static GrainSilo overDamp(int dampness) {
+        GrainSilo silo = silo(40, 0);
+        try {
+            Field row = GrainSilo.class.getDeclaredField("dampness");
+            row.setAccessible(true);
+            ((int[]) row.get(silo))[0] = dampness;
+        } catch (ReflectiveOperationException e) {
+            throw new IllegalStateException("the program holds the dampness in another way now: mend this test", e);
+        }
+        return silo;
     }
 
     private void promise36MeanDampness() {
