@@ -34,6 +34,16 @@ final class Checks {
         }
     }
 
+    boolean anyAsked() {
+        return asked > 0;
+    }
+
+    /** Counts in what another one has counted. */
+    void add(Checks other) {
+        asked += other.asked;
+        wrong += other.wrong;
+    }
+
     boolean anyWrong() {
         return wrong > 0;
     }
