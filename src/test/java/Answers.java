@@ -2,7 +2,7 @@ import java.util.ArrayList;
 import java.util.List;
 import java.util.function.Supplier;
 
-/** Every answer that a silo gives without being changed, as texts: some 390 calls for a full one, of the 512 that it has. */
+/** Every answer that a silo gives without being changed, as texts: some 390 calls, of 512, for a full one. */
 final class Answers {
     private final GrainSilo silo;
     private final List<String> told = new ArrayList<>();

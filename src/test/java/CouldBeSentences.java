@@ -125,7 +125,8 @@ final class CouldBeSentences extends SentenceTests {
         due("surelyDamp() of 14 to 18", 0, silo.surelyDamp());
     }
 
-    @Sentence(of = "Promise 28", says = "Returns the layer that could be the worst: with the greatest greatest dampness,")
+    @Sentence(of = "Promise 28",
+            says = "Returns the layer that could be the worst: with the greatest greatest dampness,")
     void promise28ReturnsTheOneWithTheGreatestGreatest() {
         due("worstLayer() of one", 0, Silos.of(0).worstLayer());
         due("worstLayer(), the lowest one", 0, Silos.looked(31, 30, 30).worstLayer());
@@ -164,23 +165,14 @@ final class CouldBeSentences extends SentenceTests {
     @Sentence(of = "Promise 28", says = "Throws IllegalStateException if there are no layers")
     void promise28ThrowsIfThereAreNoLayers() {
         dueRefused("worstLayer() of a new one", STATE, Silos::empty, GrainSilo::worstLayer);
-        dueRefused("worstLayer() of an emptied one", STATE, CouldBeSentences::emptied, GrainSilo::worstLayer);
+        dueRefused("worstLayer() of an emptied one", STATE, Silos::emptied, GrainSilo::worstLayer);
         due("worstLayer() of one layer", 0, Silos.one().worstLayer());
-    }
-
-    private static GrainSilo emptied() {
-        GrainSilo silo = Silos.of(5, 30);
-        silo.draw(0, 1);
-        silo.pass(1);
-        silo.letOut();
-        silo.letOut();
-        return silo;
     }
 
     @Sentence(of = "Promise 29", says = "Returns the doubt of the silo.")
     void promise29ReturnsTheDoubtOfTheSilo() {
         due("doubt() of none", 0, Silos.empty().doubt());
-        due("doubt() of an emptied one", 0, emptied().doubt());
+        due("doubt() of an emptied one", 0, Silos.emptied().doubt());
         due("doubt() of one unknown layer", 40, Silos.of(0).doubt());
         due("doubt() of twelve unknown layers", 480, Silos.twelve().doubt());
         GrainSilo known = Silos.looked(1, 2, 3, 4, 5, 6, 7, 8, 9, 10, 11, 12);
@@ -195,8 +187,9 @@ final class CouldBeSentences extends SentenceTests {
 
     // ---- promises 30 and 31: of some layers
 
-    @Sentence(of = "Promise 30", says = "from: the lowest layer of some - to: the highest one Returns the least sum that a "
-            + "sample of them could tell now.")
+    @Sentence(of = "Promise 30",
+            says = "from: the lowest layer of some - to: the highest one Returns the least sum that a sample "
+            + "of them could tell now.")
     void promise30ReturnsTheLeastSum() {
         due("leastSum(0, 11) of twelve unknown ones", 0, Silos.alike(12, 40).leastSum(0, 11));
         GrainSilo damp = Silos.alike(12, 40);
@@ -220,12 +213,14 @@ final class CouldBeSentences extends SentenceTests {
         due("leastSum(0, 0), no less than 0", 0, one.leastSum(0, 0));
     }
 
-    @Sentence(of = "Promise 30", says = "Throws IndexOutOfBoundsException if there are no such layers, or from is greater than to")
+    @Sentence(of = "Promise 30",
+            says = "Throws IndexOutOfBoundsException if there are no such layers, or from is greater than to")
     void promise30ThrowsIfThereAreNoSuchLayers() {
         dueRefusedOfNoLayers("leastSum", GrainSilo::leastSum);
     }
 
-    @Sentence(of = "Promise 31", says = "from: the lowest layer of some - to: the highest one Returns the greatest sum that a "
+    @Sentence(of = "Promise 31",
+            says = "from: the lowest layer of some - to: the highest one Returns the greatest sum that a "
             + "sample of them could tell now.")
     void promise31ReturnsTheGreatestSum() {
         due("greatestSum(0, 11) of twelve unknown ones", 480, Silos.alike(12, 0).greatestSum(0, 11));
@@ -250,7 +245,8 @@ final class CouldBeSentences extends SentenceTests {
         due("greatestSum(0, 0), no more than 40", 40, one.greatestSum(0, 0));
     }
 
-    @Sentence(of = "Promise 31", says = "Throws IndexOutOfBoundsException if there are no such layers, or from is greater than to")
+    @Sentence(of = "Promise 31",
+            says = "Throws IndexOutOfBoundsException if there are no such layers, or from is greater than to")
     void promise31ThrowsIfThereAreNoSuchLayers() {
         dueRefusedOfNoLayers("greatestSum", GrainSilo::greatestSum);
     }

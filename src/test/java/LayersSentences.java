@@ -89,8 +89,10 @@ final class LayersSentences extends SentenceTests {
 
     @Sentence(of = "Promise 2", says = "or dampness is not 0 to 40")
     void promise2ThrowsIfDampnessIsNot0To40() {
-        dueRefusedOutside("fill of kind 2, so damp: ", 0, 40, ARGUMENT, Silos::busy, (silo, damp) -> silo.fill(2, damp));
-        dueRefusedOutside("fill of kind 0, so damp: ", 0, 40, ARGUMENT, Silos::empty, (silo, damp) -> silo.fill(0, damp));
+        dueRefusedOutside("fill of kind 2, so damp: ", 0, 40, ARGUMENT, Silos::busy,
+                (silo, damp) -> silo.fill(2, damp));
+        dueRefusedOutside("fill of kind 0, so damp: ", 0, 40, ARGUMENT, Silos::empty,
+                (silo, damp) -> silo.fill(0, damp));
         due("fill(2, 0)", 5, Silos.busy().fill(2, 0));
         due("fill(2, 40)", 5, Silos.busy().fill(2, 40));
     }
@@ -195,7 +197,8 @@ final class LayersSentences extends SentenceTests {
         due("samples(), which was of this layer alone by then", 0, cut.samples());
     }
 
-    @Sentence(of = "Promise 3", says = "others of it tell a sum that is as much less as it was damp now, of their other layers;")
+    @Sentence(of = "Promise 3",
+            says = "others of it tell a sum that is as much less as it was damp now, of their other layers;")
     void promise3OthersOfItTellASumOfTheirOtherLayers() {
         GrainSilo silo = Silos.of(10, 20, 30);
         silo.draw(0, 1);
@@ -261,28 +264,22 @@ final class LayersSentences extends SentenceTests {
     @Sentence(of = "Promise 3", says = "Throws IllegalStateException if there is none")
     void promise3ThrowsIfThereIsNone() {
         dueRefused("letOut() of a new one", STATE, Silos::empty, GrainSilo::letOut);
-        dueRefused("letOut() of an emptied one", STATE, LayersSentences::emptied, GrainSilo::letOut);
+        dueRefused("letOut() of an emptied one", STATE, Silos::emptied, GrainSilo::letOut);
         due("letOut() of one layer", 20, Silos.one().letOut());
-    }
-
-    private static GrainSilo emptied() {
-        GrainSilo silo = Silos.of(5, 30);
-        silo.draw(0, 1);
-        silo.pass(1);
-        silo.letOut();
-        silo.letOut();
-        return silo;
     }
 
     // ---- promise 4: turnOver
 
-    @Sentence(of = "Promise 4", says = "Turns the silo over: the lowest layer is brought up upon all others, which have a "
-            + "number 1 less then.")
+    @Sentence(of = "Promise 4",
+            says = "Turns the silo over: the lowest layer is brought up upon all others, which have a number 1"
+            + " less then.")
     void promise4LowestIsBroughtUpUponAllOthers() {
-        GrainSilo two = Silos.of(9, 30);
+        GrainSilo two = Silos.empty();
+        two.fill(4, 9);
+        two.fill(2, 30);
         two.turnOver();
         dueDampness("of two", two, 30, 9);
-        dueKinds("of two", two, 1, 0);
+        dueKinds("of two", two, 2, 4);
         due("sold()", 0, two.sold());
         due("spoilt()", 0, two.spoilt());
         due("day()", 0, two.day());
@@ -295,6 +292,7 @@ final class LayersSentences extends SentenceTests {
         round.turnOver();
         round.turnOver();
         dueDampness("all the way round", round, 7, 8, 9);
+        dueKinds("all the way round", round, 0, 1, 2);
         GrainSilo sampled = Silos.of(5, 6, 7, 8);
         sampled.draw(1, 2);
         sampled.draw(3, 3);
@@ -367,7 +365,7 @@ final class LayersSentences extends SentenceTests {
     @Sentence(of = "Promise 4", says = "Throws IllegalStateException if there are fewer than two layers")
     void promise4ThrowsIfThereAreFewerThanTwoLayers() {
         dueRefused("turnOver() of none", STATE, Silos::empty, GrainSilo::turnOver);
-        dueRefused("turnOver() of an emptied one", STATE, LayersSentences::emptied, GrainSilo::turnOver);
+        dueRefused("turnOver() of an emptied one", STATE, Silos::emptied, GrainSilo::turnOver);
         dueRefused("turnOver() of one layer", STATE, Silos::one, GrainSilo::turnOver);
         due("turnOver() of two layers", 2, Silos.two().turnOver());
     }
@@ -420,7 +418,7 @@ final class LayersSentences extends SentenceTests {
         dueDampness("behind pass(1)", one, 39, 1);
         GrainSilo fifty = Silos.full();
         fifty.pass(50);
-        due("day() behind pass(50)", 52, fifty.day());
+        due("day() behind pass(50)", 53, fifty.day());
         GrainSilo single = Silos.full();
         for (int i = 0; i < 50; i++) {
             single.pass(1);

@@ -1,4 +1,3 @@
-import java.lang.reflect.Field;
 import java.util.function.Supplier;
 
 /** Each promise of the document by itself, with answers reckoned by hand. */
@@ -834,7 +833,7 @@ public final class PromisesTest {
 
     /** No 12 layers are known that take as many as 200 days: these take the most that a long search has found. */
     private void dueLongestKnown() {
-        GrainSilo silo = silo(40, 40, 39, 40, 40, 40, 40, 0, 0, 0, 0, 0);
+        GrainSilo silo = Silos.longestKnown();
         due("daysUntilEven() of the longest known", 118, silo.daysUntilEven());
         silo.pass(50);
         silo.pass(50);
@@ -846,23 +845,11 @@ public final class PromisesTest {
 
     /** No dampness up to 40 is known to reach the bound, so that one that cannot be is written into the silo. */
     private void promise35AtItsBound() {
-        due("daysUntilEven() of 398, 0", 199, overDamp(398).daysUntilEven());
-        due("daysUntilEven() of 400, 0", 200, overDamp(400).daysUntilEven());
-        due("daysUntilEven() of 401, 0", 200, overDamp(401).daysUntilEven());
-        due("daysUntilEven() of 402, 0", -1, overDamp(402).daysUntilEven());
-        due("daysUntilEven() of 4000, 0", -1, overDamp(4000).daysUntilEven());
-    }
-
-    private static GrainSilo overDamp(int dampness) {
-        GrainSilo silo = silo(40, 0);
-        try {
-            Field row = GrainSilo.class.getDeclaredField("dampness");
-            row.setAccessible(true);
-            ((int[]) row.get(silo))[0] = dampness;
-        } catch (ReflectiveOperationException e) {
-            throw new IllegalStateException("the program holds the dampness in another way now: mend this test", e);
-        }
-        return silo;
+        due("daysUntilEven() of 398, 0", 199, Silos.overDamp(398).daysUntilEven());
+        due("daysUntilEven() of 400, 0", 200, Silos.overDamp(400).daysUntilEven());
+        due("daysUntilEven() of 401, 0", 200, Silos.overDamp(401).daysUntilEven());
+        due("daysUntilEven() of 402, 0", -1, Silos.overDamp(402).daysUntilEven());
+        due("daysUntilEven() of 4000, 0", -1, Silos.overDamp(4000).daysUntilEven());
     }
 
     private void promise36MeanDampness() {

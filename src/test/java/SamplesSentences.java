@@ -55,7 +55,8 @@ final class SamplesSentences extends SentenceTests {
         }
     }
 
-    @Sentence(of = "Promise 7", says = "Throws IndexOutOfBoundsException if there are no such layers, or from is greater than to")
+    @Sentence(of = "Promise 7",
+            says = "Throws IndexOutOfBoundsException if there are no such layers, or from is greater than to")
     void promise7ThrowsIfThereAreNoSuchLayers() {
         dueRefusedOfNoLayers("draw", GrainSilo::draw);
         GrainSilo silo = Silos.of(12, 20, 8, 31, 14);
@@ -83,7 +84,8 @@ final class SamplesSentences extends SentenceTests {
 
     // ---- promise 8: throwAway
 
-    @Sentence(of = "Promise 8", says = "Throws a sample away; those behind it have a number 1 less then. - sample: the sample")
+    @Sentence(of = "Promise 8",
+            says = "Throws a sample away; those behind it have a number 1 less then. - sample: the sample")
     void promise8ThoseBehindHaveANumber1Less() {
         GrainSilo first = three();
         first.throwAway(0);

@@ -23,8 +23,8 @@ public final class SentencesTest {
             + "can see; samples tell how damp some layers beside each other are together, and get doubtful day by day; "
             + "layers even out, are let out at the bottom, or turned over; and one can ask how damp each layer is, how "
             + "damp it could be at the least and at the most by the samples, which one could be the worst, which are "
-            + "surely dry, what a sample would tell, which layer had best be looked at, and how many have to be let out "
-            + "till some grain comes. All numbers are whole.",
+            + "surely dry, what a sample would tell, which layer had best be looked at, and how many have to be let "
+            + "out till some grain comes. All numbers are whole.",
             "Ahead of the calls fill, letOut, turnOver, setLimit, pass the interface says: ---- layers.",
             "Ahead of the calls draw, throwAway, samples, lowestOf, highestOf, sumOf, doubtOf the interface says: ---- "
             + "samples.",

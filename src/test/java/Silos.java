@@ -19,6 +19,11 @@ final class Silos {
         return silo;
     }
 
+    /** Even behind 118 days: a long search has found no twelve layers that take more. */
+    static GrainSilo longestKnown() {
+        return of(40, 40, 39, 40, 40, 40, 40, 0, 0, 0, 0, 0);
+    }
+
     static GrainSilo twelve() {
         return of(1, 2, 3, 4, 5, 6, 7, 8, 9, 10, 11, 12);
     }
@@ -36,6 +41,17 @@ final class Silos {
         for (int layer = 0; layer < dampness.length; layer++) {
             silo.draw(layer, layer);
         }
+        return silo;
+    }
+
+    /** No layers and no samples left; all else that is told is told by another number than at first. */
+    static GrainSilo emptied() {
+        GrainSilo silo = of(5, 30);
+        silo.draw(0, 1);
+        silo.pass(1);
+        silo.setLimit(9);
+        silo.letOut();
+        silo.letOut();
         return silo;
     }
 
@@ -68,7 +84,7 @@ final class Silos {
         return silo;
     }
 
-    /** As many layers and as many samples as can be. */
+    /** As many layers and as many samples as can be, none of them without doubt. */
     static GrainSilo full() {
         GrainSilo silo = of(5, 33);
         silo.letOut();
@@ -80,6 +96,7 @@ final class Silos {
         drawEight(silo, 2);
         silo.pass(2);
         drawEight(silo, 0);
+        silo.pass(1);
         silo.setLimit(17);
         return silo;
     }

@@ -121,7 +121,8 @@ final class TermsSentences extends SentenceTests {
         dueRefused("draw of the 17th", STATE, Silos::full, full -> full.draw(0, 0));
     }
 
-    @Sentence(of = "Terms", says = "each was drawn of some layers, one upon the other, tells a sum (that of their dampness, "
+    @Sentence(of = "Terms",
+            says = "each was drawn of some layers, one upon the other, tells a sum (that of their dampness, "
             + "added, as it was drawn), and has a doubt (0, as it was drawn).")
     void termsSampleTellsTheSumAsItWasDrawn() {
         GrainSilo silo = Silos.of(40, 0, 7);
@@ -220,7 +221,8 @@ final class TermsSentences extends SentenceTests {
         return silo.dampnessOf(1);
     }
 
-    @Sentence(of = "Terms", says = "with more of the first ones it is 1 damper then, with more of the others 1 drier.")
+    @Sentence(of = "Terms",
+            says = "with more of the first ones it is 1 damper then, with more of the others 1 drier.")
     void termsLayerIs1DamperOr1Drier() {
         due("dampnessOf(1) between two greater ones", 11, middleADayLater(20, 10, 30));
         due("dampnessOf(1) between a greater one and none that counts", 11, middleADayLater(40, 10, 11));
@@ -277,7 +279,8 @@ final class TermsSentences extends SentenceTests {
 
     // ---- what could be
 
-    @Sentence(of = "Terms", says = "What could be. Whole numbers of dampness for all layers could be, if each is 0 to 40,")
+    @Sentence(of = "Terms",
+            says = "What could be. Whole numbers of dampness for all layers could be, if each is 0 to 40,")
     void termsCouldBeEachIs0To40() {
         GrainSilo unknown = Silos.of(20, 20);
         dueRange("without samples", unknown, 0, 0, 40);
@@ -306,7 +309,8 @@ final class TermsSentences extends SentenceTests {
         dueRange("of 39 in two", less, 0, 0, 39);
     }
 
-    @Sentence(of = "Terms", says = "and for each sample those of its layers, added, are no more than the sum and the doubt, "
+    @Sentence(of = "Terms",
+            says = "and for each sample those of its layers, added, are no more than the sum and the doubt, "
             + "added,")
     void termsCouldBeNoMoreThanSumAndDoubt() {
         GrainSilo silo = Silos.looked(20);
@@ -385,7 +389,8 @@ final class TermsSentences extends SentenceTests {
         }
     }
 
-    @Sentence(of = "Terms", says = "The least and the greatest dampness of a layer are those that it has in any of what could "
+    @Sentence(of = "Terms",
+            says = "The least and the greatest dampness of a layer are those that it has in any of what could "
             + "be.")
     void termsLeastAndGreatestAreOfWhatCouldBe() {
         GrainSilo silo = Silos.of(10, 20, 30, 5);
@@ -476,7 +481,8 @@ final class TermsSentences extends SentenceTests {
         due("surelyDamp(), the limit at " + limit, due, silo.surelyDamp());
     }
 
-    @Sentence(of = "Terms", says = "The doubt of the silo is, for all layers added, by how much the greatest dampness is more "
+    @Sentence(of = "Terms",
+            says = "The doubt of the silo is, for all layers added, by how much the greatest dampness is more "
             + "than the least one.")
     void termsDoubtOfTheSiloIsOfAllLayers() {
         due("doubt() without layers", 0, Silos.empty().doubt());
@@ -497,7 +503,7 @@ final class TermsSentences extends SentenceTests {
     @Sentence(of = "Terms", says = "A method that throws an exception changes nothing.")
     void termsWhatThrowsChangesNothing() {
         int refused = 0;
-        for (int state = 0; state < 5; state++) {
+        for (int state = 0; state < 6; state++) {
             refused += dueRefusalsChangeNothing(state);
         }
         due("more than 800 calls were refused", true, refused > 800);
@@ -506,9 +512,10 @@ final class TermsSentences extends SentenceTests {
     private static GrainSilo inState(int state) {
         return switch (state) {
             case 0 -> Silos.empty();
-            case 1 -> Silos.one();
-            case 2 -> Silos.two();
-            case 3 -> Silos.busy();
+            case 1 -> Silos.emptied();
+            case 2 -> Silos.one();
+            case 3 -> Silos.two();
+            case 4 -> Silos.busy();
             default -> Silos.full();
         };
     }
@@ -580,10 +587,11 @@ final class TermsSentences extends SentenceTests {
             dueRefused("dampnessIn(-1, " + wrong + ")", INDEX, Silos::full, silo -> silo.dampnessIn(-1, wrong));
             dueRefused("dampnessIn(0, " + wrong + ") of none", INDEX, Silos::empty, silo -> silo.dampnessIn(0, wrong));
         }
-        dueRefused("draw(0, 0) of none, with samples gone", INDEX, TermsSentences::emptied, silo -> silo.draw(0, 0));
+        dueRefused("draw(0, 0) of none, with samples gone", INDEX, TermsSentences::sixteenGone,
+                silo -> silo.draw(0, 0));
     }
 
-    private static GrainSilo emptied() {
+    private static GrainSilo sixteenGone() {
         GrainSilo silo = Silos.of(5);
         Silos.drawSixteen(silo, 0, 0);
         silo.letOut();

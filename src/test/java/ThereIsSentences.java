@@ -129,8 +129,9 @@ final class ThereIsSentences extends SentenceTests {
         due("dampLayers() of an emptied one", 0, ends.dampLayers());
     }
 
-    @Sentence(of = "Promise 22", says = "kind: a kind of grain Returns how many layers have to be let out ahead of the first "
-            + "one of this kind;")
+    @Sentence(of = "Promise 22",
+            says = "kind: a kind of grain Returns how many layers have to be let out ahead of the first one of"
+            + " this kind;")
     void promise22ReturnsHowManyAreAheadOfTheFirst() {
         GrainSilo silo = Silos.empty();
         for (int kind : new int[] {3, 3, 3, 1, 0, 3, 1, 3, 3, 3, 3, 4}) {

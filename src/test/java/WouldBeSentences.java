@@ -7,7 +7,8 @@ final class WouldBeSentences extends SentenceTests {
 
     // ---- promise 32: doubtBehind
 
-    @Sentence(of = "Promise 32", says = "from: the lowest layer of some - to: the highest one Returns the doubt of the silo, if a "
+    @Sentence(of = "Promise 32",
+            says = "from: the lowest layer of some - to: the highest one Returns the doubt of the silo, if a "
             + "sample of them was drawn now,")
     void promise32ReturnsTheDoubtIfASampleWasDrawn() {
         due("doubtBehind(0, 0) of one", 0, Silos.of(7).doubtBehind(0, 0));
@@ -50,22 +51,24 @@ final class WouldBeSentences extends SentenceTests {
     void promise32NothingIsChanged() {
         int[][] layers = {{0, 0}, {11, 11}, {0, 11}, {4, 9}};
         for (int[] l : layers) {
-            dueNothingChanged("doubtBehind(" + l[0] + ", " + l[1] + ")", Silos::full, silo -> silo.doubtBehind(l[0], l[1]));
-            dueNothingChanged("doubtBehind(" + l[0] + ", " + l[1] + ")", Silos::twelve,
-                    silo -> silo.doubtBehind(l[0], l[1]));
+            String call = "doubtBehind(" + l[0] + ", " + l[1] + ")";
+            dueNothingChanged(call, Silos::full, silo -> silo.doubtBehind(l[0], l[1]));
+            dueNothingChanged(call, Silos::twelve, silo -> silo.doubtBehind(l[0], l[1]));
         }
         dueNothingChanged("doubtBehind(0, 4)", Silos::busy, silo -> silo.doubtBehind(0, 4));
         dueNothingChanged("doubtBehind(0, 0)", Silos::one, silo -> silo.doubtBehind(0, 0));
     }
 
-    @Sentence(of = "Promise 32", says = "Throws IndexOutOfBoundsException if there are no such layers, or from is greater than to")
+    @Sentence(of = "Promise 32",
+            says = "Throws IndexOutOfBoundsException if there are no such layers, or from is greater than to")
     void promise32ThrowsIfThereAreNoSuchLayers() {
         dueRefusedOfNoLayers("doubtBehind", GrainSilo::doubtBehind);
     }
 
     // ---- promise 33: bestToLookAt
 
-    @Sentence(of = "Promise 33", says = "Returns the layer that had best be looked at: of which a sample alone, drawn now, would "
+    @Sentence(of = "Promise 33",
+            says = "Returns the layer that had best be looked at: of which a sample alone, drawn now, would "
             + "leave the least doubt of the silo,")
     void promise33ReturnsTheOneThatWouldLeaveTheLeastDoubt() {
         due("bestToLookAt() of one", 0, Silos.of(7).bestToLookAt());
@@ -121,22 +124,14 @@ final class WouldBeSentences extends SentenceTests {
     @Sentence(of = "Promise 33", says = "Throws IllegalStateException if there are no layers")
     void promise33ThrowsIfThereAreNoLayers() {
         dueRefused("bestToLookAt() of a new one", STATE, Silos::empty, GrainSilo::bestToLookAt);
-        dueRefused("bestToLookAt() of an emptied one", STATE, WouldBeSentences::emptied, GrainSilo::bestToLookAt);
+        dueRefused("bestToLookAt() of an emptied one", STATE, Silos::emptied, GrainSilo::bestToLookAt);
         due("bestToLookAt() of one layer", 0, Silos.one().bestToLookAt());
-    }
-
-    private static GrainSilo emptied() {
-        GrainSilo silo = Silos.of(5, 30);
-        silo.draw(0, 1);
-        silo.pass(1);
-        silo.letOut();
-        silo.letOut();
-        return silo;
     }
 
     // ---- promise 34: dampnessIn
 
-    @Sentence(of = "Promise 34", says = "layer: a layer - days: how many days Returns its dampness behind them, if nothing else is "
+    @Sentence(of = "Promise 34",
+            says = "layer: a layer - days: how many days Returns its dampness behind them, if nothing else is "
             + "done")
     void promise34ReturnsItsDampnessIn1To50Days() {
         GrainSilo silo = Silos.of(40, 0);
@@ -148,8 +143,8 @@ final class WouldBeSentences extends SentenceTests {
         due("dampnessIn(1, 50)", 20, silo.dampnessIn(1, 50));
         due("dampnessIn(0, 50) of one", 40, Silos.of(40).dampnessIn(0, 50));
         for (int days : new int[] {1, 2, 7, 49, 50}) {
-            GrainSilo foreseen = Silos.full();
-            GrainSilo passed = Silos.full();
+            GrainSilo foreseen = Silos.longestKnown();
+            GrainSilo passed = Silos.longestKnown();
             passed.pass(days);
             for (int layer = 0; layer < 12; layer++) {
                 due("dampnessIn(" + layer + ", " + days + "), as it is then", passed.dampnessOf(layer),
@@ -185,7 +180,8 @@ final class WouldBeSentences extends SentenceTests {
 
     // ---- promise 35: daysUntilEven
 
-    @Sentence(of = "Promise 35", says = "Returns behind how many days no layer gets damper or drier in the next one, if nothing "
+    @Sentence(of = "Promise 35",
+            says = "Returns behind how many days no layer gets damper or drier in the next one, if nothing "
             + "else is done:")
     void promise35ReturnsBehindHowManyDaysNoneChanges() {
         due("daysUntilEven() of 5, 7", 1, Silos.of(5, 7).daysUntilEven());
@@ -193,9 +189,8 @@ final class WouldBeSentences extends SentenceTests {
         due("daysUntilEven() of 5, 9", 2, Silos.of(5, 9).daysUntilEven());
         due("daysUntilEven() of 40, 0", 20, Silos.of(40, 0).daysUntilEven());
         due("daysUntilEven() of 5, 7, 0", 5, Silos.of(5, 7, 0).daysUntilEven());
-        GrainSilo silo = Silos.of(40, 40, 39, 40, 40, 40, 40, 0, 0, 0, 0, 0);
-        int days = silo.daysUntilEven();
-        due("daysUntilEven() of the longest known", 118, days);
+        GrainSilo silo = Silos.longestKnown();
+        due("daysUntilEven() of the longest known", 118, silo.daysUntilEven());
         for (int gone = 1; gone <= 118; gone++) {
             due("pass(1) of day " + gone + " is uneven", true, silo.pass(1) > 0);
             due("daysUntilEven(), " + gone + " days later", 118 - gone, silo.daysUntilEven());
@@ -265,12 +260,13 @@ final class WouldBeSentences extends SentenceTests {
     @Sentence(of = "Promise 36", says = "0 without any.")
     void promise36Returns0WithoutAny() {
         due("meanDampness() of a new one", 0.0, Silos.empty().meanDampness());
-        due("meanDampness() of an emptied one", 0.0, emptied().meanDampness());
+        due("meanDampness() of an emptied one", 0.0, Silos.emptied().meanDampness());
     }
 
     // ---- promise 37: digest
 
-    @Sentence(of = "Promise 37", says = "Computes a checksum. A number d starts with 1907; for each of the following numbers x, d "
+    @Sentence(of = "Promise 37",
+            says = "Computes a checksum. A number d starts with 1907; for each of the following numbers x, d "
             + "becomes d * 31 + x,")
     void promise37DStartsWith1907() {
         long d = 1907;
@@ -324,8 +320,8 @@ final class WouldBeSentences extends SentenceTests {
         return numbers;
     }
 
-    @Sentence(of = "Promise 37", says = "layers(), samples(), day(), limit(), sold(), spoilt(), doubt(), surelyDry(), "
-            + "surelyDamp();")
+    @Sentence(of = "Promise 37",
+            says = "layers(), samples(), day(), limit(), sold(), spoilt(), doubt(), surelyDry(), surelyDamp();")
     void promise37NumbersOfTheSilo() {
         GrainSilo silo = Silos.of(10, 20, 30, 3, 25, 40);
         silo.letOut();
@@ -355,7 +351,7 @@ final class WouldBeSentences extends SentenceTests {
             numbers.addAll(List.of(layer % 5, layer + 1, 0, 40));
         }
         due("digest() of twelve layers", wrapped(numbers), Silos.twelve().digest());
-        due("digest() of an emptied one", wrapped(List.of(0, 0, 1, 14, 1, 1, 0, 0, 0)), emptied().digest());
+        due("digest() of an emptied one", wrapped(List.of(0, 0, 1, 9, 1, 1, 0, 0, 0)), Silos.emptied().digest());
     }
 
     @Sentence(of = "Promise 37", says = "for each sample lowestOf(), highestOf(), sumOf(), doubtOf().")
