@@ -1,5 +1,5 @@
 /** The sentences of promises 23 to 31. */
-final class CouldBeSentences extends SentenceTests {
+final class CouldBeSentences extends Sentences {
 
     // ---- promises 23 to 25: of one layer
 

@@ -1,7 +1,7 @@
 import java.util.List;
 
 /** The sentences of promises 1 to 6. */
-final class LayersSentences extends SentenceTests {
+final class LayersSentences extends Sentences {
 
     // ---- promise 1: a new object
 

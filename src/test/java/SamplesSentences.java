@@ -1,5 +1,5 @@
 /** The sentences of promises 7 to 13. */
-final class SamplesSentences extends SentenceTests {
+final class SamplesSentences extends Sentences {
 
     /** Three samples of four layers, drawn three, one and no days ago. */
     private static GrainSilo three() {

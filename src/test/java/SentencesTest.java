@@ -15,7 +15,7 @@ import java.util.Map;
  * names, and whether each sentence under "Promise 1" to "Promise 37" and "Terms" has a test.
  */
 public final class SentencesTest {
-    private static final List<SentenceTests> PARTS = List.of(new TermsSentences(), new LayersSentences(),
+    private static final List<Sentences> PARTS = List.of(new TermsSentences(), new LayersSentences(),
             new SamplesSentences(), new ThereIsSentences(), new CouldBeSentences(), new WouldBeSentences());
 
     /** Words under "Terms" that tell no case: what it is all about, and how the interface is laid out. */
@@ -45,7 +45,7 @@ public final class SentencesTest {
 
     public static void main(String[] args) throws IOException, IllegalAccessException {
         SentencesTest test = new SentencesTest(Document.read(Path.of("../shared/DOC.md")));
-        for (SentenceTests part : PARTS) {
+        for (Sentences part : PARTS) {
             Method[] methods = part.getClass().getDeclaredMethods();
             Arrays.sort(methods, Comparator.comparing(Method::getName));
             for (Method method : methods) {
@@ -58,7 +58,7 @@ public final class SentencesTest {
         test.all.finish();
     }
 
-    private void run(SentenceTests part, Method method) throws IllegalAccessException {
+    private void run(Sentences part, Method method) throws IllegalAccessException {
         Sentence sentence = method.getAnnotation(Sentence.class);
         String name = part.getClass().getSimpleName() + "." + method.getName();
         all.due(name + " is marked with its sentence", true, sentence != null);

@@ -1,7 +1,7 @@
 import java.util.Arrays;
 
 /** The sentences of "Terms" and of "What it is", and those that speak of all calls. */
-final class TermsSentences extends SentenceTests {
+final class TermsSentences extends Sentences {
 
     // ---- what it is
 

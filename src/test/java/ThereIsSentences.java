@@ -1,5 +1,5 @@
 /** The sentences of promises 14 to 22. */
-final class ThereIsSentences extends SentenceTests {
+final class ThereIsSentences extends Sentences {
 
     @Sentence(of = "Promise 14", says = "Returns how many layers there are.")
     void promise14ReturnsHowManyLayersFrom0To12() {

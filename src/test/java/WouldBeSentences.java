@@ -3,7 +3,7 @@ import java.util.ArrayList;
 import java.util.List;
 
 /** The sentences of promises 32 to 37. */
-final class WouldBeSentences extends SentenceTests {
+final class WouldBeSentences extends Sentences {
 
     // ---- promise 32: doubtBehind
 

@@ -3,7 +3,7 @@ import java.util.List;
 import java.util.function.Supplier;
 
 /** What the tests of single sentences share: each is a method marked with its Sentence, run by SentencesTest. */
-abstract class SentenceTests {
+abstract class Sentences {
     static final Class<? extends RuntimeException> ARGUMENT = IllegalArgumentException.class;
     static final Class<? extends RuntimeException> STATE = IllegalStateException.class;
     static final Class<? extends RuntimeException> INDEX = IndexOutOfBoundsException.class;
