@@ -6,6 +6,8 @@ import java.util.LinkedHashMap;
 import java.util.List;
 import java.util.Map;
 import java.util.Set;
+import java.util.regex.Matcher;
+import java.util.regex.Pattern;
 
 /** The document, by its headings; without its signs for code, and each part in one line. */
 final class Document {
@@ -28,6 +30,22 @@ final class Document {
 
     Set<String> headings() {
         return parts.keySet();
+    }
+
+    /** The declarations of the class that it writes out, each in one line and without its end. */
+    List<String> face() {
+        String written = parts.getOrDefault("The public face", "");
+        int start = written.indexOf('{') + 1;
+        int end = Math.max(start, written.lastIndexOf('}'));
+        return Arrays.stream(written.substring(start, end).split(";")).map(String::strip)
+                .filter(declaration -> !declaration.isEmpty()).toList();
+    }
+
+    /** The names of the calls that the interface groups under this word, in the order of the document. */
+    List<String> group(String word) {
+        Matcher told = Pattern.compile("Ahead of the calls ([^:]*) the interface says: ---- " + word + "\\.")
+                .matcher(parts.getOrDefault("Terms", ""));
+        return told.find() ? List.of(told.group(1).split(", ")) : List.of();
     }
 
     boolean says(String heading, String words) {

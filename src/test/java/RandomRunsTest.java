@@ -1,7 +1,7 @@
 import java.util.Random;
 import java.util.function.Supplier;
 
-/** Long runs of drawn calls, each compared with PlainSilo; the seeds are written here, so that every run is the same. */
+/** Long runs of drawn calls, each compared with PlainSilo; the seeds stand here, so that every run is the same. */
 public final class RandomRunsTest {
     private static final int MOST_STEPS = 220;
     private static final int CALLS = 36;
@@ -96,7 +96,8 @@ public final class RandomRunsTest {
         switch (which) {
             case 0 -> {
                 if (mostLayers == 12 || plain.layers() < mostLayers) {
-                    compare("fill(" + kind + ", " + dampness + ")", () -> silo.fill(kind, dampness), () -> plain.fill(kind, dampness));
+                    compare("fill(" + kind + ", " + dampness + ")",
+                            () -> silo.fill(kind, dampness), () -> plain.fill(kind, dampness));
                 }
             }
             case 1 -> compare("letOut()", silo::letOut, plain::letOut);
@@ -117,15 +118,18 @@ public final class RandomRunsTest {
         switch (which) {
             case 9 -> compare("samples()", silo::samples, plain::samples);
             case 10 -> compare("lowestOf(" + sample + ")", () -> silo.lowestOf(sample), () -> plain.lowestOf(sample));
-            case 11 -> compare("highestOf(" + sample + ")", () -> silo.highestOf(sample), () -> plain.highestOf(sample));
+            case 11 -> compare("highestOf(" + sample + ")",
+                    () -> silo.highestOf(sample), () -> plain.highestOf(sample));
             case 12 -> compare("sumOf(" + sample + ")", () -> silo.sumOf(sample), () -> plain.sumOf(sample));
             case 13 -> compare("doubtOf(" + sample + ")", () -> silo.doubtOf(sample), () -> plain.doubtOf(sample));
             case 14 -> compare("layers()", silo::layers, plain::layers);
             case 15 -> compare("day()", silo::day, plain::day);
             case 16 -> compare("limit()", silo::limit, plain::limit);
-            case 17 -> compare("sold()", () -> silo.sold() * 1000 + silo.spoilt(), () -> plain.sold() * 1000 + plain.spoilt());
+            case 17 -> compare("sold()",
+                    () -> silo.sold() * 1000 + silo.spoilt(), () -> plain.sold() * 1000 + plain.spoilt());
             case 18 -> compare("kindOf(" + layer + ")", () -> silo.kindOf(layer), () -> plain.kindOf(layer));
-            case 19 -> compare("dampnessOf(" + layer + ")", () -> silo.dampnessOf(layer), () -> plain.dampnessOf(layer));
+            case 19 -> compare("dampnessOf(" + layer + ")",
+                    () -> silo.dampnessOf(layer), () -> plain.dampnessOf(layer));
             default -> {
                 compare("dampLayers()", silo::dampLayers, plain::dampLayers);
                 compare("layersAheadOf(" + kind + ")", () -> silo.layersAheadOf(kind), () -> plain.layersAheadOf(kind));
@@ -145,11 +149,15 @@ public final class RandomRunsTest {
             case 25 -> compare("surelyDamp()", silo::surelyDamp, plain::surelyDamp);
             case 26 -> compare("worstLayer()", silo::worstLayer, plain::worstLayer);
             case 27 -> compare("doubt()", silo::doubt, plain::doubt);
-            case 28, 29 -> compare("leastSum(" + a + ", " + b + ")", () -> silo.leastSum(a, b), () -> plain.leastSum(a, b));
-            case 30 -> compare("greatestSum(" + a + ", " + b + ")", () -> silo.greatestSum(a, b), () -> plain.greatestSum(a, b));
-            case 31, 32 -> compare("doubtBehind(" + a + ", " + b + ")", () -> silo.doubtBehind(a, b), () -> plain.doubtBehind(a, b));
+            case 28, 29 -> compare("leastSum(" + a + ", " + b + ")",
+                    () -> silo.leastSum(a, b), () -> plain.leastSum(a, b));
+            case 30 -> compare("greatestSum(" + a + ", " + b + ")",
+                    () -> silo.greatestSum(a, b), () -> plain.greatestSum(a, b));
+            case 31, 32 -> compare("doubtBehind(" + a + ", " + b + ")",
+                    () -> silo.doubtBehind(a, b), () -> plain.doubtBehind(a, b));
             case 33, 34 -> compare("bestToLookAt()", silo::bestToLookAt, plain::bestToLookAt);
-            default -> compare("dampnessIn(" + a + ", " + days + ")", () -> silo.dampnessIn(a, days), () -> plain.dampnessIn(a, days));
+            default -> compare("dampnessIn(" + a + ", " + days + ")",
+                    () -> silo.dampnessIn(a, days), () -> plain.dampnessIn(a, days));
         }
     }
 }

@@ -12,14 +12,15 @@ import java.util.Map;
 
 /**
  * Runs the tests of single sentences, and looks whether the document says each sentence under the heading that its test
- * names, and whether each sentence under "Promise 1" to "Promise 37" and "Terms" has a test.
+ * names, and whether each sentence ahead of "Not promised" has a test.
  */
 public final class SentencesTest {
     private static final List<Sentences> PARTS = List.of(new TermsSentences(), new LayersSentences(),
             new SamplesSentences(), new ThereIsSentences(), new CouldBeSentences(), new WouldBeSentences());
 
-    /** Words under "Terms" that tell no case: what it is all about, and how the interface is laid out. */
-    private static final List<String> TELL_NO_CASE = List.of("Layers lie one upon the other, damper or drier than one "
+    /** Words that tell no case: what it is all about, what is free, and how the interface is laid out. */
+    private static final List<String> TELL_NO_CASE = List.of("A silo of mixed grain.",
+            "what later calls answer is free.", "Layers lie one upon the other, damper or drier than one "
             + "can see; samples tell how damp some layers beside each other are together, and get doubtful day by day; "
             + "layers even out, are let out at the bottom, or turned over; and one can ask how damp each layer is, how "
             + "damp it could be at the least and at the most by the samples, which one could be the worst, which are "
@@ -88,15 +89,24 @@ public final class SentencesTest {
         };
     }
 
+    /** FaceTest stands for what is under "The public face"; nothing is asked of what is under "Not promised". */
     private void lookForSentencesWithoutTest() {
-        all.due("the promises of the document", 37L,
-                document.headings().stream().filter(heading -> heading.startsWith("Promise ")).count());
-        for (String heading : document.headings()) {
-            if (heading.startsWith("Promise ") || heading.equals("Terms")) {
-                List<String> words = new ArrayList<>(said.getOrDefault(heading, List.of()));
-                words.addAll(TELL_NO_CASE);
-                all.due("the words under " + heading + " that no test stands for", "", document.leftOf(heading, words));
-            }
+        List<String> asked = headingsWithSentences();
+        List<String> headings = new ArrayList<>(document.headings());
+        headings.removeAll(List.of("The public face", "Not promised"));
+        all.due("the headings of the document", asked, headings);
+        for (String heading : asked) {
+            List<String> words = new ArrayList<>(said.getOrDefault(heading, List.of()));
+            words.addAll(TELL_NO_CASE);
+            all.due("the words under " + heading + " that no test stands for", "", document.leftOf(heading, words));
         }
+    }
+
+    private static List<String> headingsWithSentences() {
+        List<String> headings = new ArrayList<>(List.of("What it is", "Terms"));
+        for (int promise = 1; promise <= 37; promise++) {
+            headings.add("Promise " + promise);
+        }
+        return headings;
     }
 }
